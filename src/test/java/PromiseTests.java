@@ -1,15 +1,5 @@
 /** Each promise of the document: ordinary calls, the edges that it names, and wrong inputs. */
-public final class PromiseTests {
-    private static final int NONE = TwinWrites.NONE;
-    private static final int FULL = TwinWrites.FULL;
-    private static final int LOST = TwinWrites.LOST;
-    private static final int INDEX = Due.INDEX;
-    private static final int STATE = Due.STATE;
-    private static final int LEAST = Integer.MIN_VALUE;
-    private static final int MOST = Integer.MAX_VALUE;
-
-    private static final Due due = new Due();
-
+public final class PromiseTests extends Calls {
     public static void main(String[] args) {
         newObject();
         change();
@@ -125,7 +115,7 @@ public final class PromiseTests {
         // In the checkpoint, at its mark: all was logged and cleaned, but the new change is gone.
         TwinWrites x = new TwinWrites();
         is(x, "change 1 0 12 1 1", 12);
-        due.power(x, 20, 0);
+        is(x, "power 20", 0);
         is(x, "change 2 0 1 5 0", LOST);
         counts(x, 0, 0, 20, 1, 1, 0, 0);
         is(x, "recover", 12);
@@ -136,7 +126,7 @@ public final class PromiseTests {
         for (int page = 0; page < 4; page++) {
             is(y, "change " + page + " 0 1 5 0", page + 1);
         }
-        due.power(y, 2, 0);
+        is(y, "power 2", 0);
         is(y, "change 4 0 1 5 0", LOST);
         is(y, "count 3", 1);
         is(y, "frame 0 0", NONE);
@@ -214,7 +204,7 @@ public final class PromiseTests {
         is(x, "got", 77);
         is(x, "recover", 4);
         is(x, "got", 77);
-        due.power(x, 0, 0);
+        is(x, "power 0", 0);
         is(x, "read 9 0", LOST);
         is(x, "got", 0);
         is(x, "count 3", 1);
@@ -291,7 +281,7 @@ public final class PromiseTests {
             TwinWrites x = new TwinWrites();
             is(x, "change 3 14 2 8 1", 2);
             is(x, "change 4 0 1 -6 0", 3);
-            due.power(x, n, 0);
+            is(x, "power " + n, 0);
             is(x, "sync", LOST);
             counts(x, 0, 0, n, 1, 0, 0, 0);
             for (int k = 1; k < 4; k++) {
@@ -304,7 +294,7 @@ public final class PromiseTests {
             is(x, "checkpoint", n == 0 ? 0 : n == 3 ? 2 : 1);
         }
         TwinWrites x = new TwinWrites();
-        due.power(x, 0, 0);
+        is(x, "power 0", 0);
         is(x, "sync", 0);
         is(x, "count 3", 0);
     }
@@ -353,7 +343,7 @@ public final class PromiseTests {
             TwinWrites x = new TwinWrites();
             is(x, "change 6 0 1 8 0", 1);
             is(x, "change 3 15 1 9 0", 2);
-            due.power(x, n, 0);
+            is(x, "power " + n, 0);
             is(x, "checkpoint", LOST);
             counts(x, 0, 0, n, 1, n == 18 ? 2 : 0, 0, 0);
             is(x, "disk 3 0 0", 1);
@@ -371,21 +361,21 @@ public final class PromiseTests {
 
     private static void power() {
         TwinWrites x = new TwinWrites();
-        due.power(x, -2, INDEX);
-        due.power(x, 10001, INDEX);
-        due.power(x, LEAST, INDEX);
-        due.power(x, MOST, INDEX);
-        due.power(x, 10000, 0);
+        is(x, "power -2", INDEX);
+        is(x, "power 10001", INDEX);
+        is(x, "power LEAST", INDEX);
+        is(x, "power MOST", INDEX);
+        is(x, "power 10000", 0);
         is(x, "checkpoint", 0);
-        due.power(x, 0, 0);
-        due.power(x, NONE, 0);
+        is(x, "power 0", 0);
+        is(x, "power NONE", 0);
         is(x, "checkpoint", 0);
         // Set anew, it counts from now on; a call that throws leaves it as it is.
-        due.power(x, 2, 0);
+        is(x, "power 2", 0);
         is(x, "checkpoint", 0);
-        due.power(x, 1, 0);
-        due.power(x, 10001, INDEX);
-        due.power(x, -2, INDEX);
+        is(x, "power 1", 0);
+        is(x, "power 10001", INDEX);
+        is(x, "power -2", INDEX);
         is(x, "checkpoint", 0);
         is(x, "checkpoint", LOST);
         is(x, "count 2", 4);
@@ -394,13 +384,13 @@ public final class PromiseTests {
         is(x, "checkpoint", 0);
         // Also while down, and over the recovery, which writes nothing here.
         is(x, "cut", 0);
-        due.power(x, 1, 0);
-        due.power(x, -2, INDEX);
+        is(x, "power 1", 0);
+        is(x, "power -2", INDEX);
         is(x, "recover", 0);
         is(x, "checkpoint", 0);
         is(x, "checkpoint", LOST);
-        due.power(x, 0, 0);
-        due.power(x, NONE, 0);
+        is(x, "power 0", 0);
+        is(x, "power NONE", 0);
         is(x, "recover", 0);
         is(x, "checkpoint", 0);
     }
@@ -434,7 +424,7 @@ public final class PromiseTests {
         is(x, "recover", 7);
         pages(x, NONE, NONE, NONE, NONE);
         is(x, "change 1 0 12 1 1", 19);
-        due.power(x, 20, 0);
+        is(x, "power 20", 0);
         is(x, "checkpoint", LOST);
         is(x, "recover", 19);
         pages(x, 1, NONE, NONE, NONE);
@@ -450,7 +440,7 @@ public final class PromiseTests {
         for (int s = 1; s < 4; s++) {
             TwinWrites x = new TwinWrites();
             is(x, "change 6 0 12 8 1", 12);
-            due.power(x, 16 + s, 0);
+            is(x, "power " + (16 + s), 0);
             is(x, "checkpoint", LOST);
             is(x, "disk 0 6 " + (15 + s), 12);
             is(x, "disk 0 6 " + (16 + s), 0);
@@ -466,7 +456,7 @@ public final class PromiseTests {
         }
         TwinWrites x = new TwinWrites();
         is(x, "change 6 0 1 8 0", 1);
-        due.power(x, 5, 0);
+        is(x, "power 5", 0);
         is(x, "checkpoint", LOST);
         is(x, "recover", 1);
         counts(x, 1, 0, 5, 0, 0, 0, 11);
@@ -475,7 +465,7 @@ public final class PromiseTests {
         TwinWrites y = new TwinWrites();
         is(y, "change 8 0 1 1 0", 1);
         is(y, "change 2 0 1 2 0", 2);
-        due.power(y, 2 + 8 + 5, 0);
+        is(y, "power " + (2 + 8 + 5), 0);
         is(y, "checkpoint", LOST);
         is(y, "recover", 2);
         is(y, "count 5", 1);
@@ -491,7 +481,7 @@ public final class PromiseTests {
         is(x, "change 6 0 1 1 0", 2);
         is(x, "checkpoint", 2);
         is(x, "change 6 0 1 20 0", 3);
-        due.power(x, 1 + 4 + 1, 0);
+        is(x, "power " + (1 + 4 + 1), 0);
         is(x, "checkpoint", LOST);
         is(x, "disk 1 0 20", 6);
         is(x, "disk 1 1 20", 6);
@@ -504,7 +494,7 @@ public final class PromiseTests {
         // Page 0 has slots of stamp 0 from the first on, slots 1 to 3 here.
         TwinWrites y = new TwinWrites();
         is(y, "change 0 0 1 20 0", 1);
-        due.power(y, 1 + 4 + 2, 0);
+        is(y, "power " + (1 + 4 + 2), 0);
         is(y, "checkpoint", LOST);
         is(y, "recover", 1);
         is(y, "count 5", 1);
@@ -570,17 +560,17 @@ public final class PromiseTests {
         for (int whole = 0; whole < 2; whole++) {
             TwinWrites x = oldestStaysDirty();
             is(x, "change 9 1 1 60 0", 6);
-            due.power(x, 2 + 8 + (whole == 1 ? 4 : 1), 0);
+            is(x, "power " + (2 + 8 + (whole == 1 ? 4 : 1)), 0);
             is(x, "checkpoint", LOST);
             is(x, "disk 1 2 16", 6);
             is(x, "disk 1 2 19", whole == 1 ? 6 : 0);
-            due.power(x, 4 + 2, 0);
+            is(x, "power " + (4 + 2), 0);
             is(x, "recover", LOST);
             is(x, "disk 1 0 20", 9);
             is(x, "disk 1 0 16", 1);
             is(x, "disk 0 9 17", 1);
             is(x, "disk 0 9 18", 0);
-            due.power(x, 4, 0);
+            is(x, "power 4", 0);
             is(x, "recover", 6);
             is(x, "count 5", 1);
             is(x, "disk 0 9 0", 50);
@@ -596,9 +586,9 @@ public final class PromiseTests {
         for (int n = 0; n < 4; n++) {
             TwinWrites x = new TwinWrites();
             is(x, "change 6 0 12 8 1", 12);
-            due.power(x, 18, 0);
+            is(x, "power 18", 0);
             is(x, "checkpoint", LOST);
-            due.power(x, n, 0);
+            is(x, "power " + n, 0);
             is(x, "recover", LOST);
             counts(x, 0, 0, 18 + n, 1, 0, 0, 0);
             pages(x, NONE, NONE, NONE, NONE);
@@ -609,26 +599,26 @@ public final class PromiseTests {
         // With exactly as many sectors as it needs it is not lost; the next one is.
         TwinWrites x = new TwinWrites();
         is(x, "change 6 0 12 8 1", 12);
-        due.power(x, 18, 0);
+        is(x, "power 18", 0);
         is(x, "checkpoint", LOST);
-        due.power(x, 4, 0);
+        is(x, "power 4", 0);
         is(x, "recover", 12);
         is(x, "checkpoint", LOST);
         is(x, "recover", 12);
         // Mended is mended, though the recovery is lost behind it, in the cleaning of a frame.
         TwinWrites y = oldestStaysDirty();
-        due.power(y, 1 + 16 + 1, 0);
+        is(y, "power " + (1 + 16 + 1), 0);
         is(y, "checkpoint", LOST);
         is(y, "disk 0 2 16", 3);
         is(y, "disk 0 2 17", 0);
-        due.power(y, 4 + 4 + 2, 0);
+        is(y, "power " + (4 + 4 + 2), 0);
         is(y, "recover", LOST);
         counts(y, 0, 0, 12 + 18 + 10, 1, 1, 1, 0);
         is(y, "disk 0 2 17", 3);
         is(y, "disk 0 9 17", 1);
         is(y, "disk 0 9 18", 0);
         // Page 9 was torn by that, and needs no cleaning when it is mended.
-        due.power(y, 4, 0);
+        is(y, "power 4", 0);
         is(y, "recover", 5);
         counts(y, 5, 0, 12 + 18 + 10 + 4, 0, 1, 2, 7);
         pages(y, 4, 1, 2, 3);
@@ -644,7 +634,7 @@ public final class PromiseTests {
         is(x, "sync", 3);
         is(x, "change 5 3 2 4 1", 5);
         is(x, "read 0 0", 1);
-        due.power(x, 0, 0);
+        is(x, "power 0", 0);
         is(x, "cut", 2);
         counts(x, 0, 0, 3, 1, 0, 0, 0);
         pages(x, NONE, NONE, NONE, NONE);
@@ -753,53 +743,5 @@ public final class PromiseTests {
         is(x, "count 7", INDEX);
         is(x, "recover", 5);
         counts(x, 5, 0, 14, 0, 1, 0, 12);
-    }
-
-    /** A call written as a text, "change 0 0 1 5 0", and the answer that is due. */
-    private static void is(TwinWrites x, String call, int want) {
-        String[] part = call.split(" ");
-        int[] a = new int[6];
-        for (int i = 1; i < part.length; i++) {
-            a[i] = Integer.parseInt(part[i]);
-        }
-        String test = StackWalker.getInstance().walk(s -> s.map(f -> f.getMethodName() + ":" + f.getLineNumber())
-                .filter(m -> !m.startsWith("is:")).findFirst().orElse(""));
-        due.is(test + " " + call, () -> switch (part[0]) {
-            case "change" -> x.change(a[1], a[2], a[3], a[4], a[5]);
-            case "read" -> x.read(a[1], a[2]);
-            case "got" -> x.got();
-            case "sync" -> x.sync();
-            case "checkpoint" -> x.checkpoint();
-            case "recover" -> x.recover();
-            case "cut" -> x.cut();
-            case "disk" -> x.disk(a[1], a[2], a[3]);
-            case "frame" -> x.frame(a[1], a[2]);
-            case "count" -> x.count(a[1]);
-            default -> throw new IllegalArgumentException(call);
-        }, want);
-    }
-
-    private static void counts(TwinWrites x, int... want) {
-        for (int what = 0; what < want.length; what++) {
-            is(x, "count " + what, want[what]);
-        }
-    }
-
-    private static void pages(TwinWrites x, int... want) {
-        for (int k = 0; k < want.length; k++) {
-            is(x, "frame " + k + " 0", want[k]);
-        }
-    }
-
-    private static void words(TwinWrites x, int k, int... want) {
-        for (int i = 0; i < want.length; i++) {
-            is(x, "frame " + k + " " + (3 + i), want[i]);
-        }
-    }
-
-    private static void record(TwinWrites x, int k, int... want) {
-        for (int i = 0; i < want.length; i++) {
-            is(x, "disk 2 " + k + " " + i, want[i]);
-        }
     }
 }

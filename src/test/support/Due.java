@@ -33,13 +33,6 @@ final class Due {
         }
     }
 
-    void power(TwinWrites x, int n, int want) {
-        is("power(" + n + ")", () -> {
-            x.power(n);
-            return 0;
-        }, want);
-    }
-
     private static String told(int answer) {
         return answer == INDEX ? "throws IndexOutOfBoundsException"
                 : answer == STATE ? "throws IllegalStateException" : Integer.toString(answer);
