@@ -83,11 +83,11 @@ public final class TwinWrites {
                 return FULL;
             }
         }
-        int k = bring(page);
-        if (k == LOST) {
+        Frame f = bring(page);
+        if (f == null) {
             return lose();
         }
-        changeWords(frames[k], from, n, word, step);
+        changeWords(f, from, n, word, step);
         return nextNumber - 1;
     }
 
@@ -99,12 +99,12 @@ public final class TwinWrites {
         if (down) {
             throw new IllegalStateException("all is down");
         }
-        int k = bring(page);
-        if (k == LOST) {
+        Frame f = bring(page);
+        if (f == null) {
             wordGot = 0;
             return lose();
         }
-        wordGot = frames[k].words[i];
+        wordGot = f.words[i];
         return 1;
     }
 
@@ -302,7 +302,7 @@ public final class TwinWrites {
             return LOST;
         }
         int slot = 0;
-        for (int k = first; k <= last; k++) {
+        for (int k = first; k <= last && slot < SLOTS; k++) {
             Frame f = frames[k];
             if (f.dirty) {
                 if (!writePage(slots[slot], f.page, f.stamp, f.words)) {
@@ -325,7 +325,7 @@ public final class TwinWrites {
     private boolean writeDirtyHome(int first, int last) {
         for (int k = first; k <= last; k++) {
             Frame f = frames[k];
-            if (f.dirty && !writePage(homes[f.page], f.page, f.stamp, f.words)) {
+            if (f.dirty && isIn(f.page, PAGES) && !writePage(homes[f.page], f.page, f.stamp, f.words)) {
                 return false;
             }
         }
@@ -342,28 +342,29 @@ public final class TwinWrites {
         return cleaned;
     }
 
-    /** The frame that holds the page now, as it was asked for, or LOST. */
-    private int bring(int page) {
-        int k = frameOf(page);
-        if (k == NONE) {
-            k = frameToFill();
-            if (frames[k].dirty && cleanDirty(k, k) == LOST) {
-                return LOST;
+    /** The frame that holds the page now, as it was asked for; null if the power went on the way. */
+    private Frame bring(int page) {
+        Frame f = frameOf(page);
+        if (f == null) {
+            int k = frameToFill();
+            f = frames[k];
+            if (f.dirty && cleanDirty(k, k) == LOST) {
+                return null;
             }
-            frames[k].fill(page, homes[page]);
+            f.fill(page, homes[page]);
         }
         askings++;
-        frames[k].asked = askings;
-        return k;
+        f.asked = askings;
+        return f;
     }
 
-    private int frameOf(int page) {
+    private Frame frameOf(int page) {
         for (int k = 0; k < FRAMES; k++) {
             if (frames[k].page == page) {
-                return k;
+                return frames[k];
             }
         }
-        return NONE;
+        return null;
     }
 
     /** A frame without a page was asked for at 0, before all others, so the least of those comes first. */
@@ -424,15 +425,15 @@ public final class TwinWrites {
         int end = mark + RECORDS;
         for (int number = mark; number < end; number++) {
             Change c = log[Math.floorMod(number, RECORDS)];
-            if (c.number != number) {
+            if (c.number != number || !isIn(c.page, PAGES) || !isIn(c.at, WORDS)) {
                 return number;
             }
-            int k = bring(c.page);
-            if (k == LOST) {
+            Frame f = bring(c.page);
+            if (f == null) {
                 return LOST;
             }
-            if (frames[k].stamp < number) {
-                frames[k].changeWord(c.at, c.word, number);
+            if (f.stamp < number) {
+                f.changeWord(c.at, c.word, number);
             }
         }
         return end;

@@ -121,6 +121,7 @@ public final class CrashTests {
         return again;
     }
 
+    /** Some 460 calls, so that no object here comes to the end of its 512. */
     private static void look(Run r, String where) {
         int[][] words = new int[12][16];
         for (int[] c : r.changes.subList(0, r.x.count(0))) {

@@ -7,6 +7,8 @@ import java.util.function.IntSupplier;
 public final class ModelTests {
     private static final int NONE = TwinWrites.NONE;
     private static final int LOST = TwinWrites.LOST;
+    /** Home, beside, the log, the mark, frames, counts, got(). */
+    private static final int ALL_LOOKS = 12 * 20 + 4 * 24 + 12 * 4 + 1 + 4 * 19 + 7 + 1;
     private static final Due due = new Due();
 
     private static final class PowerGone extends RuntimeException {
@@ -345,25 +347,55 @@ public final class ModelTests {
         }
     }
 
+    private static void look(String run, Random r, TwinWrites x, Model m) {
+        int sort = r.nextInt(8);
+        int what = draw(r, 7);
+        int k = draw(r, sort == 1 || sort == 4 ? 4 : sort == 3 ? 1 : 12);
+        int i = draw(r, new int[] {20, 24, 4, 1, 19, 1, 1, 1}[sort]);
+        if (sort < 4) {
+            both(run + " disk " + sort + " " + k + " " + i, () -> x.disk(sort, k, i), () -> m.disk(sort, k, i));
+        } else if (sort == 4) {
+            both(run + " frame " + k + " " + i, () -> x.frame(k, i), () -> m.frame(k, i));
+        } else if (sort == 5) {
+            both(run + " got", x::got, () -> m.got);
+        } else {
+            both(run + " count " + what, () -> x.count(what), () -> m.count(what));
+        }
+    }
+
+    /** Some calls, then all that can be seen: 512 calls together, as nothing is promised behind them. */
+    private static int shortRun(String run, Random r, int sort) {
+        TwinWrites x = new TwinWrites();
+        Model m = new Model();
+        for (int call = 0; call < 512 - ALL_LOOKS; call++) {
+            step(run + " call " + call, r, 5 + sort % 8, sort % 11, x, m);
+        }
+        seen(run, x, m);
+        return m.mended;
+    }
+
+    private static int longRun(String run, Random r, int sort) {
+        TwinWrites x = new TwinWrites();
+        Model m = new Model();
+        for (int call = 0; call < 512; call++) {
+            if (r.nextInt(3) == 0) {
+                step(run + " call " + call, r, 5 + sort % 8, sort % 11, x, m);
+            } else {
+                look(run + " call " + call, r, x, m);
+            }
+        }
+        return m.mended;
+    }
+
     public static void main(String[] args) {
         Random r = new Random(20261115);
         int mended = 0;
-        for (int run = 0; run < 300; run++) {
-            TwinWrites x = new TwinWrites();
-            Model m = new Model();
-            int pages = 5 + run % 8;
-            int sort = run % 11;
-            for (int call = 0; call < 512; call++) {
-                String at = "run " + run + " call " + call;
-                step(at, r, pages, sort, x, m);
-                if (call % 32 == 31 || m.down) {
-                    seen(at, x, m);
-                }
-            }
-            mended += m.mended;
+        for (int run = 0; run < 8000; run++) {
+            mended += shortRun("short run " + run, r, run);
+            mended += longRun("long run " + run, r, run);
         }
         int all = mended;
-        due.is("homes were mended in these runs", () -> all > 100 ? 1 : 0, 1);
+        due.is("homes were mended in these runs", () -> all > 1000 ? 1 : all, 1);
         due.end("ModelTests");
     }
 }
